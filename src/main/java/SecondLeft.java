@@ -101,7 +101,6 @@ public final class SecondLeft {
 
     // A law's code: a number is itself, a name or a deed is what stands here.
     private static final int CODE_NAME = 10000;
-    private static final int CODE_DEED = 20000;
     private static final int PLUS = 20000;
     private static final int MINUS = 20001;
     private static final int TIMES = 20002;
@@ -822,12 +821,13 @@ public final class SecondLeft {
                 return 0;
             }
             int top = 0;
-            for (int i = lawEnds[2 * law]; i < lawEnds[2 * law + 1] && top < stack.length; i++) {
+            int end = Math.min(lawEnds[2 * law + 1], code.length);
+            for (int i = lawEnds[2 * law]; i < end && top < stack.length; i++) {
                 int op = code[i];
                 if (op < CODE_NAME) {
                     stack[top] = op;
                     top++;
-                } else if (op < CODE_DEED) {
+                } else if (op - CODE_NAME < names.length) {
                     stack[top] = names[op - CODE_NAME];
                     top++;
                 } else if (op == LESS && top >= 1) {
@@ -1759,6 +1759,9 @@ public final class SecondLeft {
 
         /** The fewest seconds from one corner to each, nearest first. */
         void measure(int from) {
+            if (!town.hasCorner(from)) {
+                return;
+            }
             for (int c = 0; c < town.corners; c++) {
                 seconds[MOST_CORNERS * from + c] = c == from ? 0 : NONE;
             }
