@@ -468,7 +468,7 @@ public final class SecondLeft {
         for (int i = 0; i < going.come && i < MOST_COME_TO; i++) {
             int from = going.path[i] >> 2;
             int direction = going.path[i] & 3;
-            if (town.hasOther(from, came + BACK - 1, direction)) {
+            if (town.hasOther(from, came + 2, direction)) {
                 times++;
                 bits |= 1 << from;
             }

@@ -71,7 +71,9 @@ public final class AgainstPlainTest {
         build();
         while (calls < most && !failed) {
             int kind = random.nextInt(60);
-            if (kind == 0) {
+            if (random.nextInt(25) == 0) {
+                anything();
+            } else if (kind == 0) {
                 giveText();
             } else if (kind == 1) {
                 changeTown();
@@ -181,6 +183,24 @@ public final class AgainstPlainTest {
 
     private boolean coin() {
         return random.nextBoolean();
+    }
+
+    private static final int[] STRANGE = {Integer.MIN_VALUE, Integer.MIN_VALUE + 1, -1000000, -17, -3, -2, -1, 0, 1, 2, 3,
+        4, 5, 6, 7, 8, 9, 10, 15, 16, 17, 31, 32, 63, 64, 255, 256, 300, 1000, 65535, 65536, 1 << 30, Integer.MAX_VALUE};
+
+    /** Any call with any numbers. */
+    private void anything() throws Exception {
+        List<String> names = new ArrayList<>(new java.util.TreeSet<>(OURS.keySet()));
+        Method m = OURS.get(names.get(random.nextInt(names.size())));
+        Object[] args = new Object[m.getParameterCount()];
+        for (int i = 0; i < args.length; i++) {
+            if (m.getParameterTypes()[i] == boolean.class) {
+                args[i] = coin();
+            } else {
+                args[i] = random.nextInt(5) == 0 ? random.nextInt() : STRANGE[random.nextInt(STRANGE.length)];
+            }
+        }
+        call(m.getName(), args);
     }
 
     // ---- building

@@ -326,6 +326,13 @@ public final class PromisesTest {
         faultOf("goal 0", 1, 6);
         faultOf("Goal 0;", 1, 0);
         faultOf("goals 0;", 1, 0);
+        faultOf("goalz 0;", 1, 0);
+        faultOf("goalA 0;", 1, 0);
+        faultOf("goalZ 0;", 1, 0);
+        faultOf(";".repeat(300), 1, 0);
+        faultOf("turn to;", 1, 5);
+        faultOf("turn 23;", 1, 5);
+        faultOf("turn who;", 1, 5);
         faultOf(";", 1, 0);
         faultOf("7;", 1, 0);
         faultOf("goal\t0;", 1, 4);
@@ -576,6 +583,8 @@ public final class PromisesTest {
                 + "at 5 on;start 0 facing 3;walk 1;turn back;ask 0;follow 0;");
         due("all of it", x.played(0), -1);
         due("two corners", x.about(0), 2);
+        due("a chapel", x.ofCorner(1, 0), 2);
+        due("the first turn", x.ofTelling(0, 10), 301);
         due("the goal", x.about(1), 1);
         due("a lane", x.ofCorner(1, 6), 1);
         due("six turns", x.ofTelling(0, 2), 6);
@@ -607,6 +616,7 @@ public final class PromisesTest {
         read(y, "corner 0;corner 0;street 0 0 to 1;start 0 facing 0;walk 2;goal 0;");
         y.played(0);
         due("those that can are walked", y.walker(0), 1);
+        due("no lane", y.ofCorner(0, 5), 0);
         due("nothing behind it", y.about(1), -1);
         SecondLeft z = new SecondLeft();
         read(z, "pace 3;corner 0;corner 0;street 0 0 to 1;start 0 facing 0;walk 1;");
@@ -962,6 +972,17 @@ public final class PromisesTest {
         x.corner(0);
         x.start(6, 0);
         due("it can't be come to", x.see(1, 0), -1);
+        // five corners: 3 at 20, 7 at 30, 4 at 60, 5 at 90, 6 at 110; 4, 3, 7, .. takes as long
+        SecondLeft five = branches(5, 1);
+        int[] order = {3, 7, 4, 5, 6, -1};
+        for (int i = 0; i < order.length; i++) {
+            due("five, the " + i + "th", five.see(1, i), order[i]);
+        }
+        due("62", five.see(1, -1), 62);
+        due("by 1", five.see(1, -2), 1);
+        due("six corners", branches(5, 3).see(1, 0), -1);
+        due("nor asked", branches(5, 3).orAsk(1), -1);
+        due("one of a thousandth", branches(1, 8).see(1, 4), 7);
         // of like ones the lowest first: a teller in the middle of a row, swap 5
         SecondLeft y = cross(5);
         y.start(0, 0);
@@ -979,6 +1000,28 @@ public final class PromisesTest {
         // 2 and 4: 2.6
         due("13", y.see(1, -1), 13);
         due("by 5", y.see(1, -2), 5);
+    }
+
+    /**
+     * 0, 1, 2 in a row; up (3) and down (4) of 1 by lanes, up (5) and down (6) of 2 by streets there are
+     * churches, and behind some of them (bits) chapels. First left, then on to the church: each way leads
+     * elsewhere, if it leads anywhere.
+     */
+    private static SecondLeft branches(int slip, int chapels) {
+        SecondLeft x = row(3);
+        for (int i = 0; i < 4; i++) {
+            x.corner(1);
+            x.street(1 + i / 2, 2 * (i % 2), 3 + i, i < 2);
+        }
+        for (int i = 0; i < 4; i++) {
+            if ((chapels >> i & 1) == 1) {
+                x.street(3 + i, 2 * (i % 2), x.corner(2), false);
+            }
+        }
+        x.teller(0, slip, slip, slip);
+        x.telling(0, 1, 101311, 0);
+        x.start(0, 1);
+        return x;
     }
 
     /** From 0 up to 1; left of it is 2, right of it 3. The teller at 0 says left and swaps so often. */
@@ -1199,6 +1242,20 @@ public final class PromisesTest {
         due("slips -1", x.tell(0, 1, -1, -1), -1);
         due("i -2", x.tell(0, 1, 0, -2), -1);
         due("i far behind", x.tell(0, 1, 0, Integer.MAX_VALUE), -1);
+        // each sight six streets ahead, beyond any number
+        for (int sight = 1; sight <= 5; sight++) {
+            SecondLeft seen = new SecondLeft();
+            for (int i = 0; i < 8; i++) {
+                seen.corner(i == 6 ? sight : 0);
+            }
+            for (int i = 0; i < 7; i++) {
+                seen.street(i, 1, i + 1, false);
+            }
+            seen.goal(6);
+            toldBy(seen, 0, 1, 0, 310 + sight);
+            seen.goal(7);
+            toldBy(seen, 0, 1, 2, 303, 304);
+        }
         // a row of nine: 4 and 4; a row of 14: 4, 4 and 4 aren't enough
         SecondLeft y = row(14);
         y.goal(8);
@@ -1276,6 +1333,9 @@ public final class PromisesTest {
         due("on, or back at the end", x.signs(), 0);
         x.corner(0);
         due("4 has no street to it", x.signs(), 0);
+        SecondLeft longest = row(16);
+        longest.goal(0);
+        due("to the end and back", longest.signs(), 0);
         // a ring with the goal aside: a sign at its foot is enough
         SecondLeft y = ring(5);
         y.goal(5);
@@ -1343,6 +1403,8 @@ public final class PromisesTest {
         due("corner -1", x.whose(0, -1, 1, false), -1);
         due("telling 3", x.whose(3, 5, 1, false), -1);
         due("telling -1", x.whose(-1, 5, 1, false), -1);
+        due("of weight 1", branches(1, 8).whose(0, 7, 4, false), 1);
+        due("by", branches(1, 8).whose(0, 7, 4, true), 1);
         // the only way there has no weight
         SecondLeft y = village();
         y.teller(0, 0, 0, 0);
@@ -1418,6 +1480,25 @@ public final class PromisesTest {
         due("back once more", x.back(), 6);
         due("asked once", x.ofTeller(0, 4), 1);
         due("a text comes behind the first", read(x, "goal 0;"), 1);
+        // all of it: the last corner's streets, the oldest step
+        SecondLeft y = row(16);
+        y.start(0, 1);
+        y.walk(15);
+        y.turn(3);
+        y.walk(15);
+        y.image();
+        y.street(15, 0, 14, true);
+        y.day(1, 1);
+        y.walk(1);
+        y.back();
+        due("no street up", y.ofCorner(15, 1), -1);
+        due("thirty steps", y.about(7), 30);
+        for (int i = 0; i < 30; i++) {
+            y.undo();
+        }
+        due("ahead of all but the start and one street", y.walker(0), 1);
+        due("facing 1", y.walker(1), 1);
+        due("10 seconds", y.walker(2), 10);
     }
 
     private static void about() {
