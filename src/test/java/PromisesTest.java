@@ -1,18 +1,6 @@
 /** The promises of the document, one after the other, with answers that were worked out by hand. */
-public final class PromisesTest {
-    private static int wrong = 0;
+public final class PromisesTest extends Towns {
     private static int promise = 0;
-
-    private static void due(String call, long got, long want) {
-        if (got != want) {
-            wrong++;
-            System.out.println("promise " + promise + ": " + call + " answered " + got + ", due is " + want);
-        }
-    }
-
-    private static void due(String call, boolean got, boolean want) {
-        due(call, got ? 1 : 0, want ? 1 : 0);
-    }
 
     public static void main(String[] args) {
         Runnable[] all = {
@@ -29,97 +17,14 @@ public final class PromisesTest {
             PromisesTest::heard, PromisesTest::image, PromisesTest::back, PromisesTest::about};
         for (Runnable test : all) {
             promise++;
+            about = "promise " + promise;
             test.run();
         }
         if (promise != 44) {
             wrong++;
             System.out.println("only " + promise + " promises are tested");
         }
-        System.out.println(wrong == 0 ? "all promises hold" : wrong + " answers are not as due");
-        if (wrong != 0) {
-            System.exit(1);
-        }
-    }
-
-    // ---- towns and texts
-
-    /**
-     * <pre>
-     *         4 --- 5        direction 0 is up, 1 to the right
-     *         :     |        1 : 4 is a lane
-     *   0 --- 1 --- 2 --- 3  2 is a church (1), 3 a chapel (2), 5 a well (3)
-     * </pre>
-     */
-    private static SecondLeft village() {
-        SecondLeft x = new SecondLeft();
-        for (int sight : new int[] {0, 0, 1, 2, 0, 3}) {
-            x.corner(sight);
-        }
-        x.street(0, 1, 1, false);
-        x.street(1, 1, 2, false);
-        x.street(2, 1, 3, false);
-        x.street(1, 0, 4, true);
-        x.street(2, 0, 5, false);
-        x.street(4, 1, 5, false);
-        return x;
-    }
-
-    /** The village with a teller at 0 (swap 2, leave 3, mix 4) and these tellings of it, all facing 1. */
-    private static SecondLeft told(int... tellings) {
-        SecondLeft x = village();
-        x.teller(0, 2, 3, 4);
-        for (int t : tellings) {
-            x.telling(0, 1, t, 0);
-        }
-        return x;
-    }
-
-    /** A ring of so many corners in direction 1, and one more corner in direction 0 of the first. */
-    private static SecondLeft ring(int count) {
-        SecondLeft x = new SecondLeft();
-        for (int i = 0; i <= count; i++) {
-            x.corner(0);
-        }
-        for (int i = 0; i < count; i++) {
-            x.street(i, 1, (i + 1) % count, false);
-        }
-        x.street(0, 0, count, false);
-        return x;
-    }
-
-    /** A row of so many corners in direction 1. */
-    private static SecondLeft row(int count) {
-        SecondLeft x = new SecondLeft();
-        for (int i = 0; i < count; i++) {
-            x.corner(0);
-        }
-        for (int i = 0; i + 1 < count; i++) {
-            x.street(i, 1, i + 1, false);
-        }
-        return x;
-    }
-
-    private static void put(SecondLeft x, String text) {
-        int from = x.about(8);
-        for (int i = 0; i < text.length(); i += 20) {
-            int[] v = new int[5];
-            for (int k = 0; k < 20; k++) {
-                v[k / 4] = v[k / 4] << 8 | (i + k < text.length() ? text.charAt(i + k) : 0);
-            }
-            x.feed(v[0], v[1], v[2], v[3], v[4]);
-        }
-        x.end(from + text.length());
-    }
-
-    private static int read(SecondLeft x, String text) {
-        x.end(0);
-        put(x, text);
-        return x.text();
-    }
-
-    private static SecondLeft ruled(SecondLeft x, String text) {
-        x.by(read(x, text));
-        return x;
+        endOfTest("all promises hold");
     }
 
     // ---- 1 to 6
@@ -304,13 +209,6 @@ public final class PromisesTest {
         due("leading noughts", read(new SecondLeft(), "pace 0000009999;"), 0);
     }
 
-    private static void faultOf(String text, int what, int place) {
-        SecondLeft x = new SecondLeft();
-        due("text '" + text + "'", read(x, text), -1);
-        due("fault of '" + text + "'", x.fault(0), what);
-        due("place of '" + text + "'", x.fault(1), place);
-    }
-
     private static void fault() {
         SecondLeft x = new SecondLeft();
         due("ahead of any", x.fault(0), -1);
@@ -435,10 +333,6 @@ public final class PromisesTest {
         paceOf("0", 1);
         paceOf("-9", 1);
         paceOf("100", 99);
-    }
-
-    private static void paceOf(String sum, int due) {
-        due("pace " + sum, ruled(row(2), "pace " + sum + ";").far(0, 1), due);
     }
 
     // ---- 12 to 20: the walker
@@ -1000,42 +894,6 @@ public final class PromisesTest {
         // 2 and 4: 2.6
         due("13", y.see(1, -1), 13);
         due("by 5", y.see(1, -2), 5);
-    }
-
-    /**
-     * 0, 1, 2 in a row; up (3) and down (4) of 1 by lanes, up (5) and down (6) of 2 by streets there are
-     * churches, and behind some of them (bits) chapels. First left, then on to the church: each way leads
-     * elsewhere, if it leads anywhere.
-     */
-    private static SecondLeft branches(int slip, int chapels) {
-        SecondLeft x = row(3);
-        for (int i = 0; i < 4; i++) {
-            x.corner(1);
-            x.street(1 + i / 2, 2 * (i % 2), 3 + i, i < 2);
-        }
-        for (int i = 0; i < 4; i++) {
-            if ((chapels >> i & 1) == 1) {
-                x.street(3 + i, 2 * (i % 2), x.corner(2), false);
-            }
-        }
-        x.teller(0, slip, slip, slip);
-        x.telling(0, 1, 101311, 0);
-        x.start(0, 1);
-        return x;
-    }
-
-    /** From 0 up to 1; left of it is 2, right of it 3. The teller at 0 says left and swaps so often. */
-    private static SecondLeft cross(int swap) {
-        SecondLeft x = row(0);
-        for (int i = 0; i < 4; i++) {
-            x.corner(0);
-        }
-        x.street(0, 0, 1, false);
-        x.street(1, 3, 2, false);
-        x.street(1, 1, 3, false);
-        x.teller(0, swap, 0, 0);
-        x.telling(0, 0, 101, 0);
-        return x;
     }
 
     private static void orAsk() {
