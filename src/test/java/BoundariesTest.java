@@ -6,7 +6,7 @@ import java.util.function.IntPredicate;
  */
 public final class BoundariesTest extends Towns {
     public static void main(String[] args) throws ReflectiveOperationException {
-        runAll(BoundariesTest.class, 75);
+        runAll(BoundariesTest.class, 86);
         endOfTest("all promises hold at their boundaries");
     }
 
@@ -273,6 +273,36 @@ public final class BoundariesTest extends Towns {
         due("19", x.about(8), 19);
     }
 
+    private static void p08WhatIsCutOffIsGone() {
+        String[] texts = {"goal 15;", "goals 0;", "goal 100;"};
+        int[] ends = {3, 4, 6};
+        int[] places = {0, 4, 6};
+        for (int i = 0; i < texts.length; i++) {
+            SecondLeft x = new SecondLeft();
+            put(x, texts[i]);
+            x.end(ends[i]);
+            due("a fault", x.text(), -1);
+            due("of what is left alone", x.fault(0), 1);
+            due("place of '" + texts[i] + "' cut to " + ends[i], x.fault(1), places[i]);
+        }
+        SecondLeft x = new SecondLeft();
+        put(x, "goal 0;goal 1;");
+        x.end(7);
+        due("one clause is left", x.text(), 0);
+        put(x, "goal 1;");
+        due("what comes next comes behind it", x.about(8), 7);
+        x.end(5);
+        put(x, "2;");
+        due("a number anew", x.text(), 1);
+        SecondLeft two = row(3);
+        two.end(0);
+        put(two, "goal 1;");
+        two.end(5);
+        put(two, "2;");
+        two.played(two.text());
+        due("the goal", two.about(1), 2);
+    }
+
     private static void p09TextsAreFourAtMost() {
         SecondLeft x = new SecondLeft();
         for (int i = 0; i < 3; i++) {
@@ -421,6 +451,21 @@ public final class BoundariesTest extends Towns {
         due("each a step", x.about(7), 5);
     }
 
+    private static void p16FollowTakesThePaceOfEachStreet() {
+        // 0 to 1: 11; the lane up to 4: 40; to 5: 5 * 3 and 1
+        SecondLeft x = ruled(saying(village(), 0, 1, 101201), "pace 40*narrow+5*sight+way+10*(1-least of 1,sight+narrow end);");
+        x.start(0, 1);
+        due("all of it", x.follow(0), 1);
+        due("at the well", x.walker(0), 5);
+        due("seconds", x.walker(2), 11 + 40 + 16);
+        // from 3 to the left: 5 * 1 and 3, then 13, then 13
+        SecondLeft y = ruled(saying(village(), 0, 1, 303), "pace 40*narrow+5*sight+way+10*(1-least of 1,sight+narrow end);");
+        y.start(3, 3);
+        due("all of it", y.follow(0), 1);
+        due("at 0", y.walker(0), 0);
+        due("seconds", y.walker(2), 8 + 13 + 13);
+    }
+
     private static void p17PlayedByATextThatIsThere() {
         for (int v : new int[] {LEAST, -2, -1, 0, 1, GREATEST}) {
             due("without texts", new SecondLeft().played(v), -2);
@@ -541,6 +586,14 @@ public final class BoundariesTest extends Towns {
         due("the sixth", x.ofTelling(0, 15), 112);
         due("the seventh", x.ofTelling(0, 16), -1);
         due("far behind", x.ofTelling(0, GREATEST), -1);
+    }
+
+    private static void p23OfTellingHasNoOtherLaws() {
+        SecondLeft x = ruled(told(101), "swaps 1;leaves 2;mixes 3;pace 4;asks 5;");
+        int[] due = {0, 1, 1, 1, 2, 3, -1, -1, -1, -1, 101, -1};
+        for (int what = 0; what < due.length; what++) {
+            due("ofTelling(0, " + what + ")", x.ofTelling(0, what), due[what]);
+        }
     }
 
     // ---- 24 to 29: where tellings lead
@@ -828,6 +881,15 @@ public final class BoundariesTest extends Towns {
         due("all six", six.howFar(0, 100), 6);
     }
 
+    private static void p33HowFarByLessThanAHundredth() {
+        // 810 and 729 of 1000
+        int[] q = {72, 73, 81, 82};
+        int[] due = {2, 1, 1, 0};
+        for (int i = 0; i < q.length; i++) {
+            due("q " + q[i], branches(1, 15).howFar(0, q[i]), due[i]);
+        }
+    }
+
     private static void p34LostOfTwoTurnsOrMore() {
         never("without tellings", v -> told().lost(v, 0) != -1);
         range("telling of eight", 0, 7, v -> {
@@ -959,6 +1021,81 @@ public final class BoundariesTest extends Towns {
         }
     }
 
+    private static void p36TellFromTheFirstAndTheLastCorner() {
+        for (int[] from : new int[][] {{0, 0}, {15, 3}}) {
+            // six streets ahead there is sight 5; left of the first corner, right of the last but one there is one
+            SecondLeft x = new SecondLeft();
+            int facing = from[1];
+            for (int i = 0; i < 16; i++) {
+                x.corner(i == (from[0] + 6) % 16 ? 5 : 0);
+            }
+            for (int i = 0; i < 7; i++) {
+                x.street((from[0] + i) % 16, facing, (from[0] + i + 1) % 16, false);
+            }
+            x.street((from[0] + 1) % 16, (facing + 3) % 4, (from[0] + 9) % 16, false);
+            x.street((from[0] + 6) % 16, (facing + 1) % 4, (from[0] + 10) % 16, false);
+            for (int slips = 0; slips < 8; slips += 2) {
+                x.goal((from[0] + 6) % 16);
+                due("the highest turn", x.tell(from[0], facing, slips, 0), 315);
+                x.goal((from[0] + 9) % 16);
+                due("the lowest turn", x.tell(from[0], facing, slips, 0), 101);
+                x.goal((from[0] + 10) % 16);
+                due("one turn", x.tell(from[0], facing, slips, -1), 1);
+                due("the first right", x.tell(from[0], facing, slips, 0), 201);
+                x.goal((from[0] + 7) % 16);
+                due("two turns", x.tell(from[0], facing, slips, -1), 2);
+                due("three", x.tell(from[0], facing, slips, 0), 303);
+                due("and four", x.tell(from[0], facing, slips, 1), 304);
+            }
+        }
+    }
+
+    /**
+     * So many around; left of 0 goes a row, left of the corners from 1 on go so many lanes. Who counts them all
+     * is around once where one who leaves out lanes is around as often as there are lefts.
+     */
+    private static SecondLeft laneRing(int around, int lanes, int off) {
+        SecondLeft x = lasso(around, off);
+        for (int i = 1; i <= lanes; i++) {
+            x.street(i, 0, i + 4, true);
+        }
+        return x;
+    }
+
+    private static void p36TellOfFortyCornersAtMost() {
+        // 13 three times and once more is 40, 14 three times is 42
+        int[] around = {12, 13, 14, 15};
+        for (int k : around) {
+            SecondLeft x = laneRing(k, 2, 1);
+            x.goal(k);
+            due(k + " three times", x.tell(0, 1, 2, -1), k <= 13 ? 1 : 2);
+            due("the third left", x.tell(0, 1, 2, 0) == 103, k <= 13);
+            due("as said", x.tell(0, 1, 0, 0), 103);
+        }
+        // 9 four times and once more is 37, 10 four times is 40 and once more 41
+        for (int k = 9; k <= 10; k++) {
+            SecondLeft x = laneRing(k, 3, 1);
+            x.goal(k);
+            due(k + " four times", x.tell(0, 1, 2, -1), k == 9 ? 1 : 2);
+            due("the fourth left", x.tell(0, 1, 2, 0) == 104, k == 9);
+        }
+        // 36 and four on is 40, and five are 41; 32 and five are 37
+        SecondLeft four = laneRing(9, 3, 5);
+        four.goal(12);
+        due("four on", four.tell(0, 1, 2, -1), 2);
+        due("the fourth left", four.tell(0, 1, 2, 0), 104);
+        due("and four on", four.tell(0, 1, 2, 1), 304);
+        four.goal(13);
+        due("not five on", four.tell(0, 1, 2, -1), -1);
+        SecondLeft five = laneRing(8, 3, 5);
+        five.goal(12);
+        due("five on", five.tell(0, 1, 2, -1), 3);
+        int[] due = {104, 301, 304};
+        for (int i = 0; i < 3; i++) {
+            due("turn " + i, five.tell(0, 1, 2, i), due[i]);
+        }
+    }
+
     private static void p37WhereNeedsATellingThatCanBeGone() {
         never("without tellings", v -> told().where(v, false) != -1);
         range("telling of eight", 0, 7, v -> full().where(v, false) == 0);
@@ -982,6 +1119,33 @@ public final class BoundariesTest extends Towns {
         // at 0 there is the side street each time: at first, 3 times around, and when it is taken
         due("five times", y.where(0, false), 5);
         due("at 0", y.where(0, true), 1);
+    }
+
+    private static void p37WhereThereIsAnotherStreet() {
+        for (int direction = 0; direction < 4; direction++) {
+            for (int side = 1; side <= 2; side++) {
+                // at the cross there is the other side; where a side alone goes on there is none
+                SecondLeft x = saying(crossFrom(direction), 0, direction, 100 * side + 1);
+                due("at the cross", x.where(0, true), 2);
+                due("once", x.where(0, false), 1);
+                SecondLeft y = corners(3);
+                y.street(0, direction, 1, false);
+                y.street(1, (direction + (side == 1 ? 3 : 1)) % 4, 2, false);
+                saying(y, 0, direction, 100 * side + 1);
+                due("nowhere", y.where(0, true), 0);
+                due("never", y.where(0, false), 0);
+            }
+            // on, where there is one on a side, by a street or a lane
+            for (int side = 0; side < 4; side++) {
+                SecondLeft x = corners(4);
+                x.street(0, direction, 1, false);
+                x.street(1, direction, 2, false);
+                boolean aside = (side - direction) % 2 != 0;
+                due("a lane aside", x.street(1, side, 3, true), aside);
+                saying(x, 0, direction, 302);
+                due("past a lane", x.where(0, true), aside ? 2 : 0);
+            }
+        }
     }
 
     /** A row of so many corners, of which each has a corner above it; a teller at 0. */
@@ -1085,6 +1249,33 @@ public final class BoundariesTest extends Towns {
         due("the lower one", x.signs(), 2);
     }
 
+    private static void p39SignsShowAnyDirection() {
+        for (int off = 0; off < 4; off++) {
+            for (int around = off + 1; around <= off + 3; around += 2) {
+                SecondLeft x = corners(6);
+                for (int i = 0; i < 5; i++) {
+                    x.street(i, around % 4, (i + 1) % 5, false);
+                }
+                x.street(0, off, 5, false);
+                x.goal(5);
+                due("off in " + off + ", around in " + around % 4, x.signs(), 1);
+            }
+        }
+    }
+
+    private static void p39SignsAtTheFarthestCorner() {
+        // 0 and 1 lie around one another in direction 1; up from 0 to 1, and so on to the goal 15
+        SecondLeft x = corners(16);
+        x.street(0, 1, 1, false);
+        x.street(1, 1, 0, false);
+        for (int i = 0; i < 15; i++) {
+            x.street(i, 0, i + 1, false);
+        }
+        x.goal(15);
+        // of like ones the lowest direction: it shows up, not around
+        due("fifteen streets away", x.signs(), 1);
+    }
+
     private static void p40WhoseOfOneTwoFour() {
         never("without tellings", v -> told().whose(v, 0, 1, true) != -1);
         range("telling of eight", 0, 7, v -> {
@@ -1138,6 +1329,17 @@ public final class BoundariesTest extends Towns {
         due("a weight of 1000", branches(10, 15).heard(10), 1);
     }
 
+    private static void p41HeardByTheLawsOfNow() {
+        SecondLeft x = ruled(cross(0), "swaps 10;");
+        due("swapped always", x.heard(3), 1);
+        due("never as said", x.heard(2), 0);
+        x.by(-1);
+        due("never swapped", x.heard(3), 0);
+        due("always as said", x.heard(2), 1);
+        due("no clash with itself", x.clash(-1), 0);
+        due("none is wrong", x.wrong(1, true), 2);
+    }
+
     // ---- 42 to 44
 
     private static void p42ImageOfNoneAndOfAll() {
@@ -1162,6 +1364,32 @@ public final class BoundariesTest extends Towns {
             due("no goal", x.about(1), -1);
             due("nobody", x.walker(0), -1);
             due("no steps", x.about(7), 0);
+        }
+    }
+
+    private static void p43BackToAllThirtySteps() {
+        for (int ahead = 0; ahead < 31; ahead += 6) {
+            // so many steps are taken ahead, so that the oldest of thirty lies elsewhere each time
+            SecondLeft x = ring(5);
+            x.start(0, 1);
+            for (int i = 0; i < ahead; i++) {
+                x.turn(2);
+            }
+            x.start(0, 1);
+            x.walk(20);
+            x.walk(9);
+            x.image();
+            for (int i = 0; i < 30; i++) {
+                x.turn(1);
+            }
+            x.back();
+            due("thirty", x.about(7), 30);
+            for (int i = 28; i >= 0; i--) {
+                x.undo();
+                due("so many streets", x.walker(2), 10 * i);
+                due("so far around", x.walker(0), i % 5);
+                due("facing", x.walker(1), 1);
+            }
         }
     }
 

@@ -1,3 +1,4 @@
+import java.util.ArrayList;
 import java.util.List;
 import java.util.Set;
 
@@ -8,7 +9,7 @@ public final class TextsTest extends Towns {
     private static final String SIX = "telling 0 facing 0:1 on,1 on,1 on,1 on,1 on,1 on";
 
     public static void main(String[] args) throws ReflectiveOperationException {
-        runAll(TextsTest.class, 37);
+        runAll(TextsTest.class, 40);
         endOfTest("all texts are read as they should be at their boundaries");
     }
 
@@ -25,6 +26,27 @@ public final class TextsTest extends Towns {
         due("nor one with a fault", read(x, "goal"), -1);
         due("the tape stays", x.about(8), 4);
         due("it was not read", x.fault(0), 0);
+    }
+
+    private static void textsAgainAndAgain() {
+        // what earlier texts had takes no room from later ones
+        String long1 = "pace " + "1+".repeat(100) + "1;";
+        SecondLeft x = row(2);
+        x.image();
+        for (int i = 0; i < 12; i++) {
+            due("a long one", read(x, long1), 0);
+            x.by(0);
+            due("99 at most", x.far(0, 1), 99);
+            x.back();
+        }
+        due("another", read(x, "pace 2*3+5;"), 0);
+        x.by(0);
+        due("its pace", x.far(0, 1), 11);
+        due("and another", read(x, "pace 2*(3+4);asks 3;"), 1);
+        x.by(1);
+        due("its pace", x.far(0, 1), 14);
+        x.by(0);
+        due("the first has its own yet", x.far(0, 1), 11);
     }
 
     private static void bytesAreThreeHundred() {
@@ -227,6 +249,33 @@ public final class TextsTest extends Towns {
                 sofar += " ";
                 // nor can a sign that is of no use
                 faultOf(sofar + "# " + clause, 1, sofar.length());
+            }
+        }
+    }
+
+    /** Words and signs for which nothing else can stand: every other word, sign and some numbers are tried. */
+    private static void nothingElseStandsThere() {
+        List<String> tokens = new ArrayList<>(List.of("swaps", "leaves", "mixes", "pace", "asks", "corner",
+                "street", "lane", "goal", "teller", "telling", "start", "walk", "turn", "ask", "follow", "to", "facing",
+                "at", "of", "end", "least", "most", "left", "right", "on", "back", "x", "TO", "(", ")", "+", "-", "*",
+                "/", ",", ":", ";", "=", "#"));
+        tokens.addAll(NAMES);
+        for (int n = 0; n <= 64; n++) {
+            tokens.add("" + n);
+        }
+        String[][] around = {{"street 0 0 ", "to", " 1;"}, {"lane 0 0 ", "to", " 1;"},
+            {"telling 0 ", "facing", " 0:1 on;"}, {"start 0 ", "facing", " 0;"}, {"telling 0 facing 0 ", ":", " 1 on;"},
+            {"pace least ", "of", " 1,2 end;"}, {"pace most ", "of", " 1,2 end;"}, {"goal 0 ", ";", ""},
+            {"corner 0 ", ";", ""}, {"street 0 0 to 1 ", ";", ""}, {"lane 0 0 to 1 ", ";", ""}, {"teller 0 ", ";", ""},
+            {"start 0 facing 0 ", ";", ""}, {"walk 1 ", ";", ""}, {"turn back ", ";", ""}, {"ask 0 ", ";", ""},
+            {"follow 0 ", ";", ""}};
+        for (String[] clause : around) {
+            for (String token : tokens) {
+                if (token.equals(clause[1])) {
+                    fine(clause[0] + token + clause[2]);
+                } else {
+                    faultOf(clause[0] + token + clause[2], 1, clause[0].length());
+                }
             }
         }
     }
@@ -668,5 +717,45 @@ public final class TextsTest extends Towns {
         due("a telling that isn't", playedOf(x, "follow 1;"), 0);
         x.start(3, 1);
         due("not all of it can be gone: followed all the same", playedOf(x, "follow 0;goal 0;"), -1);
+    }
+
+    private static void eachNumberComesToItsPlace() {
+        SecondLeft x = new SecondLeft();
+        for (int i = 0; i < 15; i++) {
+            x.corner(0);
+        }
+        for (int i = 0; i < 4; i++) {
+            x.teller(1, 1, 1, 1);
+        }
+        for (int i = 0; i < 7; i++) {
+            x.telling(0, 0, 101, 0);
+        }
+        due("all is done", playedOf(x, "corner 5;street 3 1 to 7;lane 9 2 to 14;street 7 1 to 8;goal 11;teller 3;"
+                + "teller 13;telling 5 facing 3:2 left,at 4 right,3 on,at 5 on,4 left,at 1 left;start 3 facing 1;walk 2;"
+                + "start 13 facing 2;ask 5;turn right;follow 7;"), -1);
+        due("corner 5", x.ofCorner(15, 0), 5);
+        due("street 3 1 to 7", x.ofCorner(3, 2), 7);
+        due("no lane", x.ofCorner(3, 6), 0);
+        due("lane 9 2 to 14", x.ofCorner(9, 3), 14);
+        due("a lane", x.ofCorner(14, 5), 1);
+        due("goal 11", x.about(1), 11);
+        due("teller 3", x.ofTeller(4, 0), 3);
+        due("teller 13", x.ofTeller(5, 0), 13);
+        due("without slips", x.ofTeller(5, 1) + x.ofTeller(5, 2) + x.ofTeller(5, 3), 0);
+        int[] telling = {5, 3, 6, 0, 0, 0, -1, -1, -1, -1, 102, 214, 303, 315, 104, 111, -1};
+        for (int what = 0; what < telling.length; what++) {
+            due("telling 7, " + what, x.ofTelling(7, what), telling[what]);
+        }
+        due("asked 5", x.ofTeller(5, 4), 1);
+        due("asked none else", x.ofTeller(0, 4) + x.ofTeller(4, 4), 0);
+        due("start 13", x.walker(0), 13);
+        due("facing 2, turned right", x.walker(1), 3);
+        due("20 seconds", x.walker(2), 20);
+        due("steps", x.about(7), 7);
+        for (int i = 0; i < 4; i++) {
+            x.undo();
+        }
+        due("walk 2 from 3", x.walker(0), 8);
+        due("facing 1", x.walker(1), 1);
     }
 }
