@@ -1,3 +1,4 @@
+import java.util.Arrays;
 import java.util.function.IntPredicate;
 
 /**
@@ -6,7 +7,7 @@ import java.util.function.IntPredicate;
  */
 public final class BoundariesTest extends Towns {
     public static void main(String[] args) throws ReflectiveOperationException {
-        runAll(BoundariesTest.class, 86);
+        runAll(BoundariesTest.class, 93);
         endOfTest("all promises hold at their boundaries");
     }
 
@@ -596,6 +597,26 @@ public final class BoundariesTest extends Towns {
         }
     }
 
+    private static void p23OfATellingThatIsntByLaws() {
+        // a law would have a number for everyone: who isn't there has none
+        for (int tellings = 0; tellings <= 8; tellings += 4) {
+            SecondLeft x = told();
+            for (int i = 0; i < tellings; i++) {
+                x.telling(0, 1, 101, 0);
+            }
+            ruled(x, "swaps 1;leaves 2;mixes 3;pace 4;asks 5;");
+            for (int telling : new int[] {LEAST, -1, tellings, GREATEST}) {
+                for (int what = 0; what <= 10; what++) {
+                    due("ofTelling(" + telling + ", " + what + ")", x.ofTelling(telling, what), -1);
+                }
+                due("likely", x.likely(telling, -1), -1);
+                due("safeSoFar", x.safeSoFar(telling, 0, false), -1);
+                due("howFar", x.howFar(telling, 1), -1);
+                due("whose", x.whose(telling, 4, 1, true), -1);
+            }
+        }
+    }
+
     // ---- 24 to 29: where tellings lead
 
     private static void p24LeadsByTellingAndSlips() {
@@ -816,6 +837,39 @@ public final class BoundariesTest extends Towns {
             due("asks " + asks, x.orAsk(1), asks < 10 ? 0 : -1);
         }
         due("without a law it is 20", whoIsAsked(cross(5)), -1);
+    }
+
+    private static void p31OrAskIfItIsSoonerByTheLeast() {
+        // to see 2 and then 3 takes 20 and twice the swaps on the mean, to ask 20 and asks
+        for (int swap = 1; swap <= 5; swap++) {
+            for (int asks = 0; asks <= 10; asks++) {
+                SecondLeft x = ruled(cross(swap), "asks " + asks + ";");
+                due("swap " + swap + ", asks " + asks, whoIsAsked(x), asks < 2 * swap ? 0 : -1);
+            }
+        }
+        // only as said (729, to 3) and with all slips (1, to 6) it leads anywhere; from 7 both are a second away,
+        // and so is one from the other: 731 of 730 seconds to see them, 730 of 730 to ask at 7
+        int[] asks = {0, 1};
+        for (int seconds : asks) {
+            SecondLeft x = rowOf(0, 0, 0);
+            for (int sight : new int[] {1, 0, 0, 2, 0}) {
+                x.corner(sight);
+            }
+            for (int i = 0; i < 4; i++) {
+                x.street(1 + i / 2, 2 * (i % 2), 3 + i, i < 2);
+            }
+            x.street(7, 1, 3, false);
+            x.street(7, 3, 6, false);
+            x.street(3, 1, 6, false);
+            x.teller(0, 1, 1, 1);
+            x.telling(0, 1, 101311, 0);
+            x.teller(7, 0, 0, 0);
+            ruled(x, "pace 1;asks " + seconds + ";");
+            x.start(7, 0);
+            due("to see", x.see(1, -1), 731);
+            due("by", x.see(1, -2), 730);
+            due("or ask for " + seconds, x.orAsk(1), seconds == 0 ? 1 : -1);
+        }
     }
 
     private static int whoIsAsked(SecondLeft x) {
@@ -1050,6 +1104,42 @@ public final class BoundariesTest extends Towns {
         }
     }
 
+    private static void p36TellFromTheLastCornerByTheFirst() {
+        // right at 1, right at 0, then two on: lanes may be left out
+        SecondLeft x = corners(16);
+        x.street(15, 3, 1, false);
+        x.street(1, 0, 0, false);
+        x.street(0, 1, 2, false);
+        x.street(2, 1, 3, true);
+        x.goal(3);
+        int[] due = {201, 201, 302};
+        for (int slips = 0; slips < 8; slips += 2) {
+            due("three turns", x.tell(15, 3, slips, -1), 3);
+            for (int i = 0; i < 3; i++) {
+                due("turn " + i, x.tell(15, 3, slips, i), due[i]);
+            }
+        }
+    }
+
+    private static void p36TellThroughOneCornerTwice() {
+        // off in one direction, right and right again: back at the first corner, facing the other way
+        for (int facing = 0; facing < 4; facing++) {
+            SecondLeft x = corners(4);
+            x.street(0, facing, 1, false);
+            x.street(1, (facing + 1) % 4, 0, false);
+            x.street(0, (facing + 2) % 4, 2, false);
+            x.street(2, (facing + 2) % 4, 3, false);
+            x.goal(3);
+            int[] due = {201, 201, 302};
+            for (int slips = 0; slips < 8; slips += 2) {
+                due("three turns", x.tell(0, facing, slips, -1), 3);
+                for (int i = 0; i < 3; i++) {
+                    due("slips " + slips + ", turn " + i, x.tell(0, facing, slips, i), due[i]);
+                }
+            }
+        }
+    }
+
     /**
      * So many around; left of 0 goes a row, left of the corners from 1 on go so many lanes. Who counts them all
      * is around once where one who leaves out lanes is around as often as there are lefts.
@@ -1261,6 +1351,79 @@ public final class BoundariesTest extends Towns {
                 due("off in " + off + ", around in " + around % 4, x.signs(), 1);
             }
         }
+    }
+
+    private static void p39SignsForOneWayAroundAlone() {
+        // a block around which the goal, left of 1, is on ahead one way, and never the other way
+        SecondLeft x = corners(6);
+        x.street(4, 0, 0, false);
+        x.street(0, 0, 1, false);
+        x.street(1, 1, 2, false);
+        x.street(2, 2, 3, false);
+        x.street(3, 3, 4, false);
+        x.street(1, 3, 5, false);
+        x.goal(5);
+        due("at the goal's corner", x.signs(), 2);
+    }
+
+    private static void p39SignsForOneFacingAlone() {
+        // who comes from 0 turns right at 1 and comes to the goal; who goes the other way around never does
+        SecondLeft x = corners(7);
+        x.street(0, 1, 1, false);
+        x.street(1, 0, 2, false);
+        x.street(2, 1, 3, false);
+        x.street(3, 2, 4, false);
+        x.street(4, 3, 5, false);
+        x.street(5, 0, 1, false);
+        x.street(2, 3, 6, false);
+        x.goal(6);
+        due("at the goal's corner", x.signs(), 4);
+    }
+
+    private static void p39SignsOfALongWalk() {
+        // where each corner's streets in directions 0 and 1 lead to
+        int[][] to = {{7, 7}, {2, 4}, {-1, 13}, {13, 8}, {-1, -1}, {1, 9}, {12, -1}, {14, 11},
+            {11, 1}, {10, 6}, {5, 0}, {9, 3}, {-1, 10}, {8, 14}, {3, 5}, {0, -1}};
+        int[][] all = new int[16][4];
+        for (int[] row : all) {
+            Arrays.fill(row, -1);
+        }
+        SecondLeft x = corners(16);
+        for (int i = 0; i < 16; i++) {
+            for (int d = 0; d < 2; d++) {
+                if (to[i][d] != -1) {
+                    due("a street", x.street(i, d, to[i][d], false), true);
+                    all[i][d] = to[i][d];
+                    all[to[i][d]][d + 2] = i;
+                }
+            }
+        }
+        x.goal(15);
+        // one comes to the goal from anywhere, but may be at 51 corners until then, each with another facing
+        int longest = 0;
+        for (int state = 0; state < 64; state++) {
+            longest = Math.max(longest, cornersUntil(all, state / 4, state % 4, 15));
+        }
+        due("the longest walk", longest, 51);
+        due("no sign is needed", x.signs(), 0);
+    }
+
+    /** At how many corners one is, without signs, until one is at the goal; 1000 if never. */
+    private static int cornersUntil(int[][] to, int corner, int facing, int goal) {
+        int at = corner;
+        int direction = facing;
+        int count = 0;
+        while (at != goal && count < 1000) {
+            for (int more : new int[] {0, 1, 3, 2}) {
+                if (to[at][(direction + more) % 4] != -1) {
+                    direction = (direction + more) % 4;
+                    break;
+                }
+            }
+            at = to[at][direction];
+            count++;
+        }
+        return count;
     }
 
     private static void p39SignsAtTheFarthestCorner() {
